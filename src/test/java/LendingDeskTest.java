@@ -262,6 +262,11 @@ public final class LendingDeskTest {
         x.pledge(0, 0, 2);
         refuses(x, Checks.STATE, "release of more than there are", y -> y.release(0, 0, 3));
         C.same("release of all of a kind", x.release(0, 0, 2), 150);
+        x.pledge(0, 2, 9);
+        x.pledge(0, 0, 1);
+        refuses(x, Checks.STATE, "release of more than there are, though covered", y -> y.release(0, 0, 2));
+        x.release(0, 2, 9);
+        x.release(0, 0, 1);
         x.setPrice(1, 9);
         x.pledge(0, 0, 1);
         refuses(x, Checks.STATE, "release while uncovered", y -> y.release(0, 0, 1));
@@ -693,8 +698,14 @@ public final class LendingDeskTest {
         C.same("its coins", x.ledgerAmount(20, 0), 3);
         C.same("ledgerOf what is left", x.ledgerOf(0), 22);
         refuses(x, Checks.MISSING, "ledgerAmount of the entry that went", y -> y.ledgerAmount(0, 0));
+        x.lend(0, 1, 9, 5, 60);
+        x.repay(1, 4);
+        C.same("another entry of the day", x.ledgerLoan(19), 1);
+        C.same("the entries moved on", x.ledgerLoan(18), 0);
+        C.same("with their coins", x.ledgerAmount(20, 0), 3);
+        C.same("with their days", x.ledgerDay(0), 2);
         x.repay(0, 2);
-        C.same("adding up creates no entry", x.ledgerDay(0), 1);
+        C.same("adding up creates no entry", x.ledgerDay(0), 2);
         C.same("its coins", x.ledgerAmount(20, 0), 5);
     }
 
@@ -865,9 +876,10 @@ public final class LendingDeskTest {
             "borrower 12;", "borrower x", "borrower 1 ", "Borrower 1", "bring 12 1 1", "bring 1", "bring 1 1 ",
             "lend 0 0 1 1", "lend 0 0 1 1 1 ", "re", "rep", "rel", "rex", "repay 1 1;;", "price 1 100;da",
             "pr", "pl", "px", "days 1;days 1;days 1x", "days  1", "pledge 1234", "pledge 12 34", "buy 0 0 1;b",
-            "days -1", "days 0001", "release 999 9 999 "};
+            "days -1", "days 0001", "b1", "1",
+            "release 999 9 999 "};
         int[] due = {0, 1, 2, 1, 2, 0, 0, 0, 8, 9, 12, 12, 9, 10, 0, 7, 7, 10, 12, 14, 2, 3, 3, 2, 10, 14, 2, 2, 1,
-            20, 5, 10, 11, 11, 5, 8, 17};
+            20, 5, 10, 11, 11, 5, 8, 1, 0, 17};
         for (int i = 0; i < texts.length; i++) {
             String text = texts[i];
             C.refuses(Checks.ARGUMENT, "run of '" + text + "'", () -> runOf(x, text));
@@ -912,6 +924,8 @@ public final class LendingDeskTest {
     private static void undoAndCopies() {
         promises62and63();
         undoOfEverything();
+        undoOfLedgerAndLosses();
+        rowsAreUsedAgain();
         promises64and65();
     }
 
@@ -969,6 +983,64 @@ public final class LendingDeskTest {
         C.same("undo keeps the line", Picture.lineOf(x), line);
         C.same("undo keeps the input buffer", x.append('a'), 2);
         C.same("undo keeps the saved copy", x.restore(), 2);
+    }
+
+    private static void undoOfLedgerAndLosses() {
+        LendingDesk x = oneBorrower(0);
+        x.addBorrower(9);
+        x.bring(1, 3, 9);
+        x.lend(0, 0, 3, 20, 60);
+        x.lend(1, 3, 9, 5, 60);
+        x.repay(1, 2);
+        x.repay(0, 3);
+        String earlier = withoutUndo(x);
+        x.save();
+        x.setPrice(0, 1);
+        x.pass(1);
+        C.same("losses", x.losses(), 15);
+        C.same("the loan that is left", x.idAt(0), 1);
+        x.repay(1, 1);
+        x.undo();
+        x.undo();
+        C.same("undo takes back losses", x.losses(), 0);
+        x.undo();
+        C.same("picture after undo", withoutUndo(x), earlier);
+        x.pass(2);
+        x.repay(1, 2);
+        x.repay(0, 17);
+        x.restore();
+        C.same("picture after restore", withoutUndo(x), earlier);
+        x.repay(1, 3);
+        x.repay(0, 17);
+        x.undo();
+        x.undo();
+        C.same("picture after undo of both repayments", withoutUndo(x), earlier);
+    }
+
+    /** What is made anew after undo or a repayment starts without anything of the earlier one. */
+    private static void rowsAreUsedAgain() {
+        LendingDesk x = new LendingDesk();
+        x.addBorrower(100);
+        x.bring(0, 1, 30);
+        x.lend(0, 1, 30, 9, 1);
+        x.pass(2);
+        for (int i = 0; i < 4; i++) {
+            x.undo();
+        }
+        C.same("borrowerCount", x.borrowerCount(), 0);
+        x.addBorrower(5);
+        C.same("units of the later borrower", x.units(0, 1), 0);
+        C.same("defaults of the later borrower", x.defaults(0), 0);
+        x.bring(0, 2, 30);
+        C.same("id of the later loan", x.lend(0, 2, 30, 9, 5), 0);
+        C.same("collateral of the later loan", x.collateral(0, 1), 0);
+        x.pass(1);
+        x.repay(0, 10);
+        x.bring(0, 3, 3);
+        x.lend(0, 3, 3, 9, 5);
+        C.same("collateral after a repayment", x.collateral(1, 2), 0);
+        C.same("interest after a repayment", x.interest(1), 0);
+        C.yes("isBalanced", x.isBalanced());
     }
 
     /** Undo brings back the picture before the change. */
