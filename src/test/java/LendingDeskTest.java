@@ -704,6 +704,13 @@ public final class LendingDeskTest {
         C.same("the entries moved on", x.ledgerLoan(18), 0);
         C.same("with their coins", x.ledgerAmount(20, 0), 3);
         C.same("with their days", x.ledgerDay(0), 2);
+        x.pass(1);
+        x.repay(0, 1);
+        C.same("the other entry moved on", x.ledgerLoan(18), 1);
+        C.same("the newest entry", x.ledgerLoan(19), 0);
+        x.undo();
+        x.undo();
+        C.same("undo brings the oldest entry back", x.ledgerDay(0), 2);
         x.repay(0, 2);
         C.same("adding up creates no entry", x.ledgerDay(0), 2);
         C.same("its coins", x.ledgerAmount(20, 0), 5);
@@ -1039,6 +1046,16 @@ public final class LendingDeskTest {
         x.bring(0, 3, 3);
         x.lend(0, 3, 3, 9, 5);
         C.same("collateral after a repayment", x.collateral(1, 2), 0);
+        LendingDesk y = new LendingDesk();
+        y.save();
+        y.addBorrower(0);
+        y.bring(0, 0, 9);
+        y.lend(0, 0, 9, 5, 1);
+        y.pass(2);
+        y.restore();
+        y.addBorrower(0);
+        C.same("defaults after restore", y.defaults(0), 0);
+        C.same("units after restore", y.units(0, 0), 0);
         C.same("interest after a repayment", x.interest(1), 0);
         C.yes("isBalanced", x.isBalanced());
     }

@@ -23,15 +23,20 @@ public final class RandomRunsTest {
         private final LendingDesk x = new LendingDesk();
         private final PlainDesk m = new PlainDesk();
         private final boolean calm;
+        private final boolean steady;
 
         OneRun(int seed, Checks checks) {
             random = new Random(seed);
             name = "run " + seed;
             this.checks = checks;
             calm = seed % 2 == 0;
+            steady = seed % 4 == 0;
         }
 
         void go() {
+            if (steady) {
+                begin();
+            }
             for (int call = 0; call < CALLS; call++) {
                 String what = name + " call " + call + " " + oneCall();
                 String got = Picture.of(x);
@@ -39,6 +44,18 @@ public final class RandomRunsTest {
                 checks.same("picture after " + what, got, due);
                 if (!got.equals(due)) {
                     return;
+                }
+            }
+        }
+
+        /** A steady run has goods for many small loans from the start, so that it fills the desk and the ledger. */
+        private void begin() {
+            for (int b = 0; b < 3; b++) {
+                two("borrower", Checks.answerOf(() -> x.addBorrower(200)), 200);
+                for (int k = 0; k < 4; k++) {
+                    int person = b;
+                    int kind = k;
+                    two("bring", Checks.answerOf(() -> x.bring(person, kind, 99)), b, k, 99);
                 }
             }
         }
@@ -82,6 +99,9 @@ public final class RandomRunsTest {
 
         private String oneCall() {
             int draw = random.nextInt(100);
+            if (steady && draw < 90) {
+                return steadyChange(draw);
+            }
             if (draw < 70) {
                 return change(draw);
             }
@@ -127,6 +147,25 @@ public final class RandomRunsTest {
             }
             int d = random.nextInt(12) == 0 ? near(1, 60) : in(1, 3);
             return two("days", Checks.answerOf(() -> x.pass(d)), d);
+        }
+
+        private String steadyChange(int draw) {
+            int p = id();
+            if (draw < 30) {
+                int b = in(0, 2);
+                int k = in(0, 3);
+                int n = in(1, 3);
+                int t = in(20, 60);
+                return two("lend", Checks.answerOf(() -> x.lend(b, k, n, 5, t)), b, k, n, 5, t);
+            }
+            if (draw < 70) {
+                int c = in(1, 2);
+                return two("repay", Checks.answerOf(() -> x.repay(p, c)), p, c);
+            }
+            if (draw < 75) {
+                return two("days", Checks.answerOf(() -> x.pass(1)), 1);
+            }
+            return change(in(0, 57));
         }
 
         private boolean exists(int id) {
