@@ -648,6 +648,7 @@ public final class LendingDeskTest {
         ledgerLimit();
         promises48to50();
         promises51to55();
+        promise55unbalanced();
     }
 
     private static void promises43to47() {
@@ -760,6 +761,44 @@ public final class LendingDeskTest {
         C.yes("isBalanced", x.isBalanced());
         refuses(x, Checks.INDEX, "totalUnits of kind 4", y -> y.totalUnits(4));
         refuses(x, Checks.INDEX, "totalUnits of kind -1", y -> y.totalUnits(-1));
+    }
+
+    /** No run of calls unbalances the desk, so its state is changed from outside. */
+    private static void promise55unbalanced() {
+        C.no("isBalanced with a coin too many", tampered(-1, "funds", 901).isBalanced());
+        C.yes("isBalanced with the same coins", tampered(-1, "funds", 900).isBalanced());
+        for (int kind = 0; kind < 4; kind++) {
+            C.no("isBalanced with a unit too many", tampered(kind, "stored", 1).isBalanced());
+        }
+        C.no("isBalanced with a loan that outlives the longest term", tampered(-2, "lastDay", 200).isBalanced());
+        C.yes("isBalanced with another due day", tampered(-2, "lastDay", 30).isBalanced());
+    }
+
+    /** Sets a field of the desk, an element of it at a kind, or (place -2) a field of the first loan. */
+    private static LendingDesk tampered(int place, String name, int value) {
+        LendingDesk x = oneLoan();
+        try {
+            Object target = valueIn(x, "desk");
+            if (place >= 0) {
+                ((int[]) valueIn(target, name))[place] = value;
+                return x;
+            }
+            if (place == -2) {
+                target = java.lang.reflect.Array.get(valueIn(target, "loans"), 0);
+            }
+            java.lang.reflect.Field field = target.getClass().getDeclaredField(name);
+            field.setAccessible(true);
+            field.setInt(target, value);
+            return x;
+        } catch (ReflectiveOperationException e) {
+            throw new IllegalStateException(e);
+        }
+    }
+
+    private static Object valueIn(Object owner, String name) throws ReflectiveOperationException {
+        java.lang.reflect.Field field = owner.getClass().getDeclaredField(name);
+        field.setAccessible(true);
+        return field.get(owner);
     }
 
     // ---- promises 56 to 61 ----
