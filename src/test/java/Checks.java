@@ -11,13 +11,23 @@ final class Checks {
 
     private int good = 0;
     private int wrong = 0;
+    private String place = "";
+
+    /** What is printed before a wrong answer from here on. */
+    void at(String newPlace) {
+        place = newPlace;
+    }
+
+    int count() {
+        return good + wrong;
+    }
 
     void same(String what, Object got, Object due) {
         if (got.equals(due)) {
             good++;
         } else {
             wrong++;
-            System.out.println(what + " answered " + got + ", due is " + due);
+            System.out.println(place + what + " answered " + got + ", due is " + due);
         }
     }
 
@@ -32,6 +42,10 @@ final class Checks {
     /** The class must be the very one: a class below it would come from the machine. */
     void refuses(Class<? extends RuntimeException> due, String what, Runnable call) {
         same(what, outcome(call), "throws." + due.getSimpleName());
+    }
+
+    void returns(String what, Runnable call) {
+        same(what, outcome(call), "returned");
     }
 
     static String outcome(Runnable call) {

@@ -1,9 +1,7 @@
 import java.util.function.Consumer;
 
 /** For every promise the ordinary inputs, the edges that the document names, and wrong inputs. */
-public final class LendingDeskTest {
-    private static final Checks C = new Checks();
-
+public final class LendingDeskTest extends TestBase {
     private LendingDeskTest() {
     }
 
@@ -16,53 +14,6 @@ public final class LendingDeskTest {
         lineAndPrograms();
         undoAndCopies();
         C.finish();
-    }
-
-    // ---- objects to start from ----
-
-    /** One borrower with coins and 90 units of each kind. */
-    private static LendingDesk oneBorrower(int coins) {
-        LendingDesk x = new LendingDesk();
-        x.addBorrower(coins);
-        for (int kind = 0; kind < 4; kind++) {
-            x.bring(0, kind, 90);
-        }
-        return x;
-    }
-
-    /** Loan 0 of borrower 0: 100 coins against 20 units of kind 1 for 10 days. */
-    private static LendingDesk oneLoan() {
-        LendingDesk x = oneBorrower(50);
-        x.lend(0, 1, 20, 100, 10);
-        return x;
-    }
-
-    /** A borrower with two loans that defaulted on day 2. */
-    private static LendingDesk twoDefaults() {
-        LendingDesk x = oneBorrower(50);
-        x.lend(0, 0, 10, 50, 1);
-        x.lend(0, 1, 10, 50, 1);
-        x.pass(2);
-        return x;
-    }
-
-    private static void type(LendingDesk x, String text) {
-        for (int i = 0; i < text.length(); i++) {
-            x.append(text.charAt(i));
-        }
-    }
-
-    private static int runOf(LendingDesk x, String text) {
-        type(x, text);
-        return x.run();
-    }
-
-    /** The call must throw the very class due, and leave everything that can be seen as it was. */
-    private static void refuses(LendingDesk x, Class<? extends RuntimeException> due, String what,
-            Consumer<LendingDesk> call) {
-        String earlier = Picture.of(x);
-        C.refuses(due, what, () -> call.accept(x));
-        C.same("picture after the refused " + what, Picture.of(x), earlier);
     }
 
     // ---- promises 1 to 4, 11 to 17 ----
@@ -774,33 +725,6 @@ public final class LendingDeskTest {
         C.yes("isBalanced with another due day", tampered(-2, "lastDay", 30).isBalanced());
     }
 
-    /** Sets a field of the desk, an element of it at a kind, or (place -2) a field of the first loan. */
-    private static LendingDesk tampered(int place, String name, int value) {
-        LendingDesk x = oneLoan();
-        try {
-            Object target = valueIn(x, "desk");
-            if (place >= 0) {
-                ((int[]) valueIn(target, name))[place] = value;
-                return x;
-            }
-            if (place == -2) {
-                target = java.lang.reflect.Array.get(valueIn(target, "loans"), 0);
-            }
-            java.lang.reflect.Field field = target.getClass().getDeclaredField(name);
-            field.setAccessible(true);
-            field.setInt(target, value);
-            return x;
-        } catch (ReflectiveOperationException e) {
-            throw new IllegalStateException(e);
-        }
-    }
-
-    private static Object valueIn(Object owner, String name) throws ReflectiveOperationException {
-        java.lang.reflect.Field field = owner.getClass().getDeclaredField(name);
-        field.setAccessible(true);
-        return field.get(owner);
-    }
-
     // ---- promises 56 to 61 ----
 
     private static void lineAndPrograms() {
@@ -1107,10 +1031,6 @@ public final class LendingDeskTest {
         C.no("there is a change by " + what, withoutUndo(x).equals(earlier));
         C.same("undo of " + what, x.undo(), 7);
         C.same("picture after undo of " + what, withoutUndo(x), earlier);
-    }
-
-    private static String withoutUndo(LendingDesk x) {
-        return Picture.of(x).replaceFirst(" undo \\d", "");
     }
 
     private static void promises64and65() {
