@@ -147,6 +147,7 @@ public final class BoundaryProgramsTest extends BoundaryBase {
         C.same("coins", x.coins(0), 207);
         C.same("run", runOf(x, "days 1;repay 0 102"), 2);
         C.same("debt", x.debt(0), 100);
+        shorterAfterLonger();
         sentence("Either all commands are executed or none.");
         LendingDesk y = someLoans();
         for (String text : new String[] {"days 1;days 0", "borrower 9;bring 2 0 9;lend 2 0 9 5 9;repay 4 6",
@@ -172,6 +173,20 @@ public final class BoundaryProgramsTest extends BoundaryBase {
         C.same("1", runOf(new LendingDesk(), "days 1"), 1);
         C.same("2", runOf(new LendingDesk(), "days 1;days 1"), 2);
         C.same("8 in 60 characters", runOf(new LendingDesk(), FULL), 8);
+    }
+
+    /** Nothing of an earlier program is read again. */
+    private static void shorterAfterLonger() {
+        LendingDesk x = new LendingDesk();
+        runOf(x, "days 22;days 3");
+        runOf(x, "days 2");
+        C.same("day", x.day(), 27);
+        for (int length = 5; length >= 0; length--) {
+            String text = "days ".substring(0, length);
+            C.refuses(Checks.ARGUMENT, "run of '" + text + "'", () -> runOf(x, text));
+            C.same("errorPosition", x.errorPosition(), length);
+        }
+        C.same("day", x.day(), 27);
     }
 
     /** Nothing changes but what is stored of the failure. */

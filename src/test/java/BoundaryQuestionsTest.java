@@ -446,6 +446,8 @@ public final class BoundaryQuestionsTest extends BoundaryBase {
         C.same("not covered", y.missingUnits(0, 1), 1);
         y.setPrice(1, 1);
         C.same("3 / 2, rounded up", y.missingUnits(0, 1), 2);
+        y.pledge(0, 1, 1);
+        C.same("1 / 2, rounded up", y.missingUnits(0, 1), 1);
         y.repay(0, 1);
         C.same("covered again", y.missingUnits(0, 1), 0);
         y.setPrice(0, 1);
@@ -475,6 +477,16 @@ public final class BoundaryQuestionsTest extends BoundaryBase {
         x.setPrice(1, 80);
         x.setPrice(2, value - 170);
         C.same("the value", x.collateralValue(0), value);
+        return x;
+    }
+
+    /** Loan 0 bears a coin a day for 100, and its collateral has this value. */
+    private static LendingDesk coinADay(int value) {
+        LendingDesk x = oneBorrower(0);
+        x.lend(0, 0, 40, 100, 60);
+        x.pledge(0, 1, 1);
+        x.setPrice(0, 1);
+        x.setPrice(1, value - 40);
         return x;
     }
 
@@ -509,6 +521,9 @@ public final class BoundaryQuestionsTest extends BoundaryBase {
         sentence("Returns the number of days, at least 1.");
         defaultsIn("with a debt above the value", worth(199, 60), 0, 1);
         defaultsIn("with a debt far above the value", worth(171, 60), 0, 1);
+        for (int value = 97; value <= 104; value++) {
+            defaultsIn("with a coin a day and a value of " + value, coinADay(value), 0, Math.max(1, value - 99));
+        }
         LendingDesk y = worth(260, 3);
         y.pass(2);
         C.same("the day before the due day", y.daysToDefault(0), 2);

@@ -1,3 +1,6 @@
+import java.util.List;
+import java.util.function.Consumer;
+
 /** 'What it is' and 'Terms', sentence by sentence. What the programs and undo say is in BoundaryProgramsTest too. */
 public final class BoundaryTermsTest extends BoundaryBase {
     private BoundaryTermsTest() {
@@ -182,7 +185,28 @@ public final class BoundaryTermsTest extends BoundaryBase {
             C.same("units of the other borrower", z.units(1, kind), 0);
         }
         C.same("coins", z.coins(0), 3);
+        afterUndo();
         unitsThatComeBack();
+    }
+
+    /** A borrower and a loan that take the place of undone ones have nothing of theirs. */
+    private static void afterUndo() {
+        LendingDesk x = new LendingDesk();
+        x.addBorrower(3);
+        x.bring(0, 1, 9);
+        x.lend(0, 1, 9, 5, 1);
+        x.pass(2);
+        for (int i = 0; i < 4; i++) {
+            x.undo();
+        }
+        x.addBorrower(4);
+        C.same("coins", x.coins(0), 4);
+        C.same("units", x.units(0, 1), 0);
+        C.same("defaults", x.defaults(0), 0);
+        x.bring(0, 2, 9);
+        x.lend(0, 2, 9, 5, 1);
+        C.same("collateral", x.collateral(0, 1), 0);
+        C.same("interest", x.interest(0), 0);
     }
 
     private static void unitsThatComeBack() {
@@ -501,7 +525,7 @@ public final class BoundaryTermsTest extends BoundaryBase {
             x.pass(2);
             C.same("interest of " + row[0] + " at 10 for 3 days", x.interest(0), 3 * row[1]);
         }
-        int[][] atRate15 = {{1, 1}, {66, 1}, {67, 2}, {133, 2}, {134, 3}, {199, 3}, {200, 3}, {201, 4}};
+        int[][] atRate15 = {{1, 1}, {66, 1}, {67, 2}, {133, 2}, {134, 3}, {199, 3}, {200, 3}, {201, 4}, {466, 7}, {467, 8}};
         for (int[] row : atRate15) {
             LendingDesk x = oneBorrower(0);
             x.lend(0, 0, 1, 1, 60);
@@ -735,6 +759,29 @@ public final class BoundaryTermsTest extends BoundaryBase {
         x.repay(0, 22);
         refuses(x, Checks.MISSING, "the next oldest entry", y -> y.ledgerAmount(1, 0));
         C.same("the one behind it", x.ledgerAmount(2, 0), 3);
+        twoLoansInTheLedger();
+    }
+
+    private static void twoLoansInTheLedger() {
+        LendingDesk x = oneBorrower(500);
+        x.lend(0, 0, 90, 100, 60);
+        x.lend(0, 1, 90, 100, 60);
+        for (int i = 0; i < 30; i++) {
+            x.repay(i % 2, 1 + i);
+            x.undo();
+            x.repay(i % 2, 1);
+            int size = Math.min(i + 1, 20);
+            C.same("ledgerSize", x.ledgerSize(), size);
+            for (int k = 0; k < size; k++) {
+                C.same("ledgerLoan", x.ledgerLoan(k), (i + 1 - size + k) % 2);
+                C.same("ledgerDay", x.ledgerDay(k), (i + 1 - size + k) / 2);
+            }
+            if (i % 2 == 1) {
+                x.pass(1);
+            }
+        }
+        C.same("ledgerOf", x.ledgerOf(0), 10);
+        C.same("ledgerOf", x.ledgerOf(1), 10);
     }
 
     // ---- commands, undo, errors ----
@@ -899,6 +946,15 @@ public final class BoundaryTermsTest extends BoundaryBase {
         C.same("setPrice to the same price", x.undoableCount(), 1);
         runOf(x, "price 0 10");
         C.same("run without effect", x.undoableCount(), 2);
+        for (Consumer<LendingDesk> change : changes()) {
+            LendingDesk y = someLoans();
+            y.setPrice(0, 11);
+            String earlier = withoutUndo(y);
+            change.accept(y);
+            C.no("there is a change", withoutUndo(y).equals(earlier));
+            C.same("undo", y.undo(), 7);
+            C.same("picture after undo", withoutUndo(y), earlier);
+        }
         C.refuses(Checks.ARGUMENT, "a malformed run", () -> runOf(x, "price"));
         C.refuses(Checks.STATE, "a run that fails", () -> runOf(x, "price 0 9;price 0 0"));
         C.refuses(Checks.ARGUMENT, "setPrice", () -> x.setPrice(0, 100));
@@ -920,6 +976,13 @@ public final class BoundaryTermsTest extends BoundaryBase {
             refuses(y, Checks.STATE, "one more", LendingDesk::undo);
         }
         undoLeaves();
+    }
+
+    /** A call of each method that makes changes. */
+    private static List<Consumer<LendingDesk>> changes() {
+        return List.of(y -> y.addBorrower(0), y -> y.bring(1, 0, 1), y -> y.setPrice(0, 12), y -> y.lend(1, 0, 1, 1, 1),
+                y -> y.pledge(3, 2, 1), y -> y.release(3, 2, 1), y -> y.repay(3, 1), y -> y.repay(1, 42),
+                y -> y.buy(0, 2, 1), y -> y.pass(1), y -> y.pass(60), y -> runOf(y, "bring 1 0 1;repay 3 2;days 50"));
     }
 
     private static void undoLeaves() {
