@@ -185,28 +185,40 @@ public final class BoundaryTermsTest extends BoundaryBase {
             C.same("units of the other borrower", z.units(1, kind), 0);
         }
         C.same("coins", z.coins(0), 3);
-        afterUndo();
+        afterRestore();
         unitsThatComeBack();
     }
 
-    /** A borrower and a loan that take the place of undone ones have nothing of theirs. */
-    private static void afterUndo() {
+    /** A borrower and a loan that take the place of those before restore have nothing of theirs. */
+    private static void afterRestore() {
         LendingDesk x = new LendingDesk();
+        x.save();
         x.addBorrower(3);
-        x.bring(0, 1, 9);
-        x.lend(0, 1, 9, 5, 1);
-        x.pass(2);
-        for (int i = 0; i < 4; i++) {
-            x.undo();
+        for (int kind = 0; kind < 4; kind++) {
+            x.bring(0, kind, 9);
         }
+        x.lend(0, 0, 4, 5, 1);
+        x.lend(0, 0, 4, 5, 60);
+        for (int kind = 1; kind < 4; kind++) {
+            x.pledge(1, kind, 4);
+        }
+        x.pass(2);
+        C.same("defaults before", x.defaults(0), 1);
+        x.restore();
         x.addBorrower(4);
         C.same("coins", x.coins(0), 4);
-        C.same("units", x.units(0, 1), 0);
         C.same("defaults", x.defaults(0), 0);
-        x.bring(0, 2, 9);
-        x.lend(0, 2, 9, 5, 1);
-        C.same("collateral", x.collateral(0, 1), 0);
-        C.same("interest", x.interest(0), 0);
+        for (int kind = 0; kind < 4; kind++) {
+            C.same("units", x.units(0, kind), 0);
+            x.bring(0, kind, 9);
+        }
+        for (int id = 0; id < 2; id++) {
+            C.same("lend", x.lend(0, 2, 3, 5, 1), id);
+            C.same("interest", x.interest(id), 0);
+            for (int kind = 0; kind < 4; kind++) {
+                C.same("collateral", x.collateral(id, kind), kind == 2 ? 3 : 0);
+            }
+        }
     }
 
     private static void unitsThatComeBack() {
